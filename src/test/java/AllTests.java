@@ -1,0 +1,17 @@
+/** Runs every test of the project; ends with exit code 1 if one fails. */
+public final class AllTests {
+    private AllTests() { }
+
+    public static void main(String[] args) {
+        PeopleTest.run();
+        TapeTest.run();
+        TriedTest.run();
+        RowsAndThingsTest.run();
+        ModelTest.run();
+        LanguageTest.run();
+        System.out.println(Check.passed + " passed, " + Check.failed + " failed");
+        if (Check.failed != 0) {
+            System.exit(1);
+        }
+    }
+}
