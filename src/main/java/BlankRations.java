@@ -1144,7 +1144,7 @@ public final class BlankRations {
 
         /** The NUMBER behind a NAME, if that NAME stands here; else 0. */
         private int numberBehind(int word, int most) {
-            if (fault >= 0 || sorts[at] != NAME || values[at] != word) {
+            if (sorts[at] != NAME || values[at] != word) {
                 return 0;
             }
             at++;

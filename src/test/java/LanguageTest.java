@@ -11,6 +11,7 @@ import com.sun.source.tree.MemberReferenceTree;
 import com.sun.source.tree.MemberSelectTree;
 import com.sun.source.tree.MethodInvocationTree;
 import com.sun.source.tree.MethodTree;
+import com.sun.source.tree.NewArrayTree;
 import com.sun.source.tree.NewClassTree;
 import com.sun.source.tree.SwitchExpressionTree;
 import com.sun.source.tree.SwitchTree;
@@ -311,8 +312,20 @@ final class LanguageTest {
             return super.visitMethodInvocation(t, v);
         }
 
+        @Override public Void visitNewArray(NewArrayTree t, Void v) {
+            must("12", t, isMadeOnce());
+            return super.visitNewArray(t, v);
+        }
+
+        /** All that is made is made with the object and used again: the room is one for all calls. */
+        private boolean isMadeOnce() {
+            Element by = methodAround();
+            return by == null || by.getKind() == ElementKind.CONSTRUCTOR;
+        }
+
         @Override public Void visitNewClass(NewClassTree t, Void v) {
             must("2", t, t.getClassBody() == null);
+            must("12", t, isMadeOnce());
             called(t, trees.getElement(getCurrentPath()));
             return super.visitNewClass(t, v);
         }

@@ -62,6 +62,8 @@ final class RowsAndThingsTest {
         due("31: no third", x.row(2, 0), -9);
         due("30: a refusal", x.prove(3, 9), BAD);
         due("30: leaves the rows", x.many(4), 2);
+        due("30: one", x.prove(1, 1), 1);
+        due("31: no second", x.row(1, 0), -9);
         due("30: ten", x.prove(1, 10), 10);
         due("31: the last", x.row(9, 1), 6);
         due("31: no eleventh", x.row(10, 1), -9);
@@ -183,11 +185,13 @@ final class RowsAndThingsTest {
             due("35: forty", x.sheet(sort, sort, 40), 1);
             due("35: all 0", x.item(sort, sort, 39), 0);
             x.put(sort, 39, 5);
+            x.put(sort, 0, 6);
             due("35: -14 leaves it", x.sheet(sort, sort, -1), -14);
             due("35: 41 leaves it", x.sheet(sort, sort, 41), BAD);
             due("35: as it was", x.item(sort, sort, 39), 5);
             due("35: anew", x.sheet(sort, sort, 40), 1);
             due("35: all 0", x.item(sort, sort, 39), 0);
+            due("35: all 0", x.item(sort, sort, 0), 0);
         }
         due("35: missing", x.sheet(0, -1, MAX), 1);
         due("35: missing", x.item(0, 0, 0), -11);

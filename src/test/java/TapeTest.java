@@ -14,6 +14,7 @@ final class TapeTest {
         numbers();
         nine();
         whatStays();
+        nothingIsLeft();
     }
 
     private static void due(String call, long got, long want) {
@@ -160,6 +161,28 @@ final class TapeTest {
         due("3: a ninth", faultOf(eight + " boy;"), 33);
         due("3: a ninth of another kind", faultOf(eight + "asker x"), 32);
         due("3: a law then", faultOf(eight + "van 3;"), -1);
+    }
+
+    /** Neither bytes nor people of an earlier text come through to a later one. */
+    private static void nothingIsLeft() {
+        BlankRations x = new BlankRations();
+        x.seed(77);
+        due("3: a name", post(x, "boyaaaa1111"), -100);
+        due("3: a name ends where the bytes end", post(x, "boy"), -103);
+        due("3: so does a number", post(x, "van 3"), -105);
+        due("3: z stays", x.seed(1), 77);
+        due("3: two", post(x, "asker thought 40 hand 3;asker thought 40 hand 3 pages 9;"), 2);
+        x.weeks(3);
+        due("3: nobody", post(x, " "), 0);
+        for (int what = 0; what < 6; what++) {
+            due("3: state(" + what + ")", x.state(what), 0);
+        }
+        for (int what = 0; what < 4; what++) {
+            due("3: many(" + what + ")", x.many(what), 0);
+        }
+        x.person(0, 0, 0, 0);
+        due("6: a new one got none", x.of(0, 4), 0);
+        due("6: a new one said nothing", x.of(0, 5), 0);
     }
 
     private static void whatStays() {

@@ -224,6 +224,14 @@ final class TriedTest {
         due("24: still not", x.needed(1), NONE);
         x.mind(2, ASKER, 9);
         due("24: the third", x.needed(1), 2);
+        // all: 10 and 1; without the first: 1 and 7; without the third: 10
+        x.mind(0, ASKER, 9);
+        x.mind(2, ASKER, 0);
+        x.thought(0, 20);
+        due("24: the first", x.needed(1), 0);
+        x.mind(0, ASKER, 4);
+        x.mind(2, ASKER, 9);
+        x.thought(0, 10);
         x.own(2, 1);
         due("24: without is: it is given nothing", x.needed(1), NONE);
         x.set(0, 0);
@@ -305,6 +313,10 @@ final class TriedTest {
         z.thought(7, 1);
         z.thought(0, 98);
         due("26: 98 and 1", z.packed(99), 7);
+        BlankRations one = new BlankRations();
+        one.person(BOY, 40, 0, 0);
+        due("26: just room", one.packed(40), 1);
+        due("26: the first above", one.packed(39), NONE);
     }
 
     private static void fits() {
