@@ -7,6 +7,12 @@ public final class AllTests {
         TapeTest.run();
         TriedTest.run();
         RowsAndThingsTest.run();
+        RangesTest.run();
+        OrderTest.run();
+        PeopleBoundsTest.run();
+        TriedBoundsTest.run();
+        TapeBoundsTest.run();
+        ThingsBoundsTest.run();
         ModelTest.run();
         LanguageTest.run();
         System.out.println(Check.passed + " passed, " + Check.failed + " failed");
