@@ -199,6 +199,12 @@ final class PeopleBoundsTest {
         x.person(NOVELIST, 99, 9, 99);
         due("got of a later one", x.of(1, GOT), 0);
         due("said by a later one", x.of(1, SAID), 0);
+        Check.holds("the first one got and said", x.of(0, GOT) > 0 && x.of(0, SAID) > 0);
+        x.words(60);
+        x.post();
+        x.person(ASKER, 0, 0, 0);
+        due("got of one in the place of another", x.of(0, GOT), 0);
+        due("said by one in the place of another", x.of(0, SAID), 0);
     }
 
     /** THOUGHT (0 to 99), HAND (0 to 9), PAGES (0 to 99): the least and the most at once. */
@@ -637,6 +643,8 @@ final class PeopleBoundsTest {
         x.person(ASKER, 0, 9, 1);
         x.seed(seedThatLeaves(0));
         due("as much, whatever slips", x.poor(30), 0);
+        x.own(0, 99);
+        due("WORDS by 1, not by more", x.poor(30), 0);
         x.own(0, 0);
         due("0 is as much as 0", x.poor(30), 0);
         // the boy takes the page, if nothing slips; if it slips, the asker says more

@@ -234,6 +234,15 @@ final class TapeBoundsTest {
             dueFault(kind + " " + kind + ";", kind.length() + 1);
             dueFault(kind.substring(0, 1) + " " + kind.substring(1) + ";", 0);
         }
+        for (String kind : KINDS) {
+            everyLetter("", kind, ";");
+        }
+        for (String law : LAWS) {
+            everyLetter("", law, " 1;");
+        }
+        for (String option : OPTIONS) {
+            everyLetter("boy ", option, " 1;");
+        }
         for (String law : LAWS) {
             dueFault(law + " 1;", -1);
             dueFault(law + "s 1;", 0);
@@ -248,6 +257,16 @@ final class TapeBoundsTest {
         }
         dueFault("van 1 2;", 6);
         dueFault("van 12;", 4);
+    }
+
+    /** A name one of whose letters is the next one of the alphabet, or a great one, is none. */
+    private static void everyLetter(String before, String name, String behind) {
+        for (int i = 0; i < name.length(); i++) {
+            char next = (char) (name.charAt(i) + 1);
+            char great = (char) (name.charAt(i) - 32);
+            dueFault(before + name.substring(0, i) + next + name.substring(i + 1) + behind, before.length());
+            dueFault(before + name.substring(0, i) + great + name.substring(i + 1) + behind, before.length());
+        }
     }
 
     /** Blanks (32) part them, and stand elsewhere as one likes. */
@@ -353,6 +372,12 @@ final class TapeBoundsTest {
         dueFault("boy hand 0001 ?", 9);
         dueFault("boy ? boys", 4);
         dueFault("van van van", 4);
+        dueFault("boy thought hand;", 12);
+        dueFault("boy thought hand x;", 12);
+        dueFault("boy thought hand 10;", 12);
+        dueFault("boy thought pages 3 x;", 12);
+        dueFault("boy hand pages 100;", 9);
+        dueFault("boy thought hand pages ?", 12);
     }
 
     /** It is all by it alone (what it doesn't tell is as at first); the latest of several LAWS counts. */

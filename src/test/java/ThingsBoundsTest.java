@@ -34,6 +34,7 @@ final class ThingsBoundsTest {
         writesWraps();
         partedByNothing();
         noActNoTrace();
+        everyBody();
         theLongestTrace();
         manyAtTheEnds();
         nothingIsKept();
@@ -533,6 +534,26 @@ final class ThingsBoundsTest {
             dueTrace("no act", x);
             due("an act again", x.act(0, ASKS, 1), 4);
             dueTrace("an act again", x, 11, 10);
+        }
+    }
+
+    /** Numbers of the bodies that ran, as they began (left first). */
+    private static void everyBody() {
+        int[][][] bodies = {
+            {{10}, {11, 10}, {12}, {13, 11, 10}},
+            {{10}, {20, 11, 10}, {12}, {13, 20, 11, 10}},
+            {{30, 10}, {11, 30, 10}, {12}, {31, 13, 11, 30, 10, 12}},
+            {{51, 10}, {20, 11, 51, 10}, {50, 12}, {13, 20, 11, 51, 10}},
+            {{40, 30, 10}, {41, 11, 40, 30, 10, 40, 30, 10}, {12}, {31, 13, 41, 11, 40, 30, 10, 40, 30, 10, 12}},
+            {{10}, {11, 10}, {61, 12, 10}, {60, 13, 11, 10}}};
+        for (int kind = 0; kind < 6; kind++) {
+            for (int act = 0; act < 4; act++) {
+                BlankRations x = eightAskers();
+                x.mind(2, kind, 9);
+                x.shelf(1, 0, 2);
+                x.act(1, act, MAX);
+                dueTrace(kind + ", act " + act, x, bodies[kind][act]);
+            }
         }
     }
 

@@ -240,6 +240,9 @@ final class TriedBoundsTest {
         due("2 of 3 at once", x.thoughtFor(0, 1), 1);
         due("within two", x.thoughtFor(0, 2), 0);
         due("its thought is as it was", x.of(0, 1), 50);
+        x.weeks(2);
+        Check.holds("it has got one", x.of(0, 4) > 0);
+        due("another page is asked for", x.thoughtFor(0, 1), 1);
     }
 
     /** Each THINKS first: so 98 does what 99 does, and 98 is the most that can be the least. */
