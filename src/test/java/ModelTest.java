@@ -4,7 +4,8 @@ import java.util.Random;
 /** Long runs of calls, the same every time, on the class and on the Model: all answers must be the same. */
 final class ModelTest {
     private static final int RUNS = Integer.getInteger("runs", 150);
-    private static final int CALLS = 512;
+    /** What an object answers behind 512 calls is free; a step makes no more than 40. */
+    private static final int CALLS = 512 - 40;
 
     private final Random random;
     private final BlankRations real = new BlankRations();
@@ -51,6 +52,7 @@ final class ModelTest {
     }
 
     private int one() {
+        calls++;
         int most = Math.max(0, real.many(0) - 1);
         return near(0, most);
     }
@@ -139,8 +141,13 @@ final class ModelTest {
 
     /** About as many words as are said. */
     private int asked(int n) {
-        int words = Math.max(0, real.words(n));
+        int words = Math.max(0, wordsBy(n));
         return any(0, 9) == 0 ? near(0, 9999) : any(words / 2, words * 5 / 4 + 1);
+    }
+
+    private int wordsBy(int n) {
+        calls++;
+        return real.words(n);
     }
 
     private void fit() {
@@ -148,7 +155,7 @@ final class ModelTest {
         int n = any(0, 4);
         same("sheet", sheet, any(1, 3), n);
         for (int i = 0; i < n; i++) {
-            same("put", sheet, i, any(0, 2) == 0 ? -1 : real.words(i + 1));
+            same("put", sheet, i, any(0, 2) == 0 ? -1 : wordsBy(i + 1));
         }
         int person = one();
         same("fits", sheet, person, 0);
@@ -250,6 +257,7 @@ final class ModelTest {
 
     private void tell(String text) {
         byte[] bytes = text.getBytes(StandardCharsets.ISO_8859_1);
+        calls++;
         if (real.many(5) > 0) {
             same("post");
         }
