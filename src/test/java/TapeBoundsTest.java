@@ -172,6 +172,10 @@ final class TapeBoundsTest {
         }
         dueFault("poet thought 1 hand 2 pages 3 pages 4;", 30);
         dueFault("van 3 thought 1;", 6);
+        for (String option : OPTIONS) {
+            dueFault(option + " 1;", 0);
+            dueFault("boy; " + option + " 1;", 5);
+        }
     }
 
     /** A NUMBER out of range. */
