@@ -14,6 +14,7 @@ public final class AllTests {
         TapeBoundsTest.run();
         ThingsBoundsTest.run();
         ModelTest.run();
+        ReadmeTest.run();
         LanguageTest.run();
         System.out.println(Check.passed + " passed, " + Check.failed + " failed");
         if (Check.failed != 0) {
