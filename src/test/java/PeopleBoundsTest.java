@@ -30,6 +30,7 @@ final class PeopleBoundsTest {
         backIsHeld();
         gotIsHeld();
         saidIsHeld();
+        afterFiveHundredAndEleven();
         givesTheLastPage();
         mindAtTheEnds();
         zWraps();
@@ -460,6 +461,16 @@ final class PeopleBoundsTest {
         x.person(ASKER, 0, 0, 1);
         x.weeks(1);
         due("the sum isn't held", x.state(2), 100000);
+    }
+
+    /** An object is used for at most 512 calls: the last of them answers as any; WEEK has no most. */
+    private static void afterFiveHundredAndEleven() {
+        BlankRations x = new BlankRations();
+        x.set(VAN, 0);
+        for (int call = 2; call <= 511; call++) {
+            due("call " + call, x.weeks(60), 0);
+        }
+        due("call 512", x.state(0), 510 * 60);
     }
 
     /** NONE: it has none, or that one has 99; GOT of neither changes. */
